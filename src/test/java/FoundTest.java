@@ -20,7 +20,7 @@ public final class FoundTest {
         Due.end();
     }
 
-    /** Causes 0 plain, 1 poise, 2 hair; readings that make sizes 45, 17, 5 but for what is left. */
+    /** Causes 0 plain, 1 poise, 2 hair; all three together have sizes 33, 35/2 and 13. */
     private static WatchBench bench() {
         WatchBench x = new WatchBench();
         x.cause(0, 0, 0);

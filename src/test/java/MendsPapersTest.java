@@ -7,6 +7,7 @@ public final class MendsPapersTest {
         worst();
         best();
         bestAlike();
+        bestOfMost();
         paper();
         Due.end();
     }
@@ -181,6 +182,22 @@ public final class MendsPapersTest {
         Due.is("lower steps of the first mend", w.best(), code(1, -2, 3, -1));
         w.read(0, 0);
         Due.is("stale", w.best(), Due.STALE);
+    }
+
+    /** Spans in all states and as many mends as there may be; the last two mends are the good ones. */
+    private static void bestOfMost() {
+        WatchBench x = bench();
+        for (int state = 0; state < 36; state++) {
+            x.span(state, -1000, 1000);
+        }
+        for (int m = 0; m < 6; m++) {
+            x.mend(2, 200);
+        }
+        x.mend(1, 5);
+        x.mend(0, 50);
+        Due.is("worst of all states", x.worst(false), 130);
+        Due.is("the last two of eight", x.best(), code(6, -3, 7, -2));
+        Due.is("in all spans", x.paper(), 1);
     }
 
     private static void paper() {

@@ -526,6 +526,16 @@ final class SlowBench {
         return most;
     }
 
+    /** The number that a good teller would tell next (0 where there is none, or it is too great to tell). */
+    int nextToTell() {
+        if (foundSizes == null || told.size() >= 2 * foundSizes.length) {
+            return 0;
+        }
+        Fraction size = foundSizes[told.size() / 2];
+        BigInteger part = told.size() % 2 == 0 ? size.above() : size.below();
+        return part.bitLength() < 31 ? part.intValue() : 0;
+    }
+
     private long check() {
         List<Integer> numbers = new ArrayList<>(told);
         told.clear();

@@ -20,6 +20,8 @@ public final class SlowBenchTest {
     private final int stateStep;
     private final boolean extremes;
     private final int wildness;
+    /* How many calls of the telling that goes on are still to come. */
+    private int telling;
 
     private SlowBenchTest(long seed, List<Method> methods) {
         random = new Random(seed);
@@ -51,6 +53,9 @@ public final class SlowBenchTest {
         for (int call = 0; call < CALLS && !Due.anyWrong(); call++) {
             Method method = pick(call);
             int[] numbers = numbersFor(method);
+            if (method.getName().equals("tell") && random.nextInt(20) != 0) {
+                numbers[0] = slow.nextToTell();
+            }
             boolean[] flags = {random.nextBoolean(), random.nextBoolean()};
             String words = method.getName() + Arrays.toString(numbers) + Arrays.toString(flags);
             long want = slow.act(method.getName(), numbers, flags);
@@ -92,11 +97,18 @@ public final class SlowBenchTest {
         String[] first = {"cause", "cause", "read", "read", "read", "mend", "span", "span", "find", "day"};
         String[] often = {"find", "find", "find", "few", "check", "tell", "tell", "size", "left", "doubt", "best"};
         int die = random.nextInt(10);
+        if (telling > 0) {
+            telling--;
+            return named(telling == 0 ? "check" : "tell");
+        }
         if (call < 40 && die < 8) {
             return named(first[random.nextInt(first.length)]);
         }
         if (die < 3) {
             return named(often[random.nextInt(often.length)]);
+        }
+        if (die == 3 && random.nextInt(3) == 0) {
+            telling = 2 + 2 * upTo(3) + upTo(9) / 9;
         }
         if (die < 5) {
             // what makes stale or forgets is held back, so that what is found is looked at

@@ -137,7 +137,13 @@ public final class ToldTest {
         Due.is("the span holds it", x.paper(), 1);
         Due.is("back once more", x.back(), 1);
         x.find(1);
-        Due.is("the kept span doesn't", x.paper(), -1000);
+        Due.is("the kept span doesn't, for its end", x.paper(), -1000);
+        x.span(0, 41, 50);
+        x.keep();
+        x.span(0, 40, 50);
+        x.back();
+        x.find(1);
+        Due.is("the kept span doesn't, for its beginning", x.paper(), -1000);
     }
 
     private static void keptApart() {
