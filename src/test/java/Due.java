@@ -1,5 +1,8 @@
+import java.util.function.IntToLongFunction;
+
 /** What a test's calls answered against what is due; a test ends with end(). */
 final class Due {
+    static final long LOW = -9000000000000000000L;
     static final long BEYOND = -9000000000000000001L;
     static final long NONE = -9000000000000000002L;
     static final long KIND = -9000000000000000003L;
@@ -9,14 +12,20 @@ final class Due {
     static final long STALE = -9000000000000000007L;
 
     private static int wrong;
+    private static String about = "";
 
     private Due() {
+    }
+
+    /** What the checks that follow are about; it stands ahead of all that they tell. */
+    static void about(String words) {
+        about = words;
     }
 
     static void is(String what, long got, long want) {
         if (got != want) {
             wrong++;
-            System.out.println(what + " answered " + got + ", due is " + want);
+            System.out.println(about + what + " answered " + got + ", due is " + want);
         }
     }
 
@@ -29,7 +38,17 @@ final class Due {
     static void holds(String what, boolean truth) {
         if (!truth) {
             wrong++;
-            System.out.println(what + " does not hold");
+            System.out.println(about + what + " does not hold");
+        }
+    }
+
+    /** An act takes from .. to, both ends with it, and answers BEYOND one outside them and at the ends of all ints. */
+    static void takesJust(String what, int from, int to, IntToLongFunction act) {
+        for (int v : new int[] {Integer.MIN_VALUE, from - 1, to + 1, Integer.MAX_VALUE}) {
+            is(what + " " + v, act.applyAsLong(v), BEYOND);
+        }
+        for (int v : new int[] {from, to}) {
+            holds(what + " " + v + " is taken", act.applyAsLong(v) > LOW);
         }
     }
 
