@@ -54,6 +54,21 @@ final class Benches {
         return x;
     }
 
+    /** Four causes and twenty readings whose sizes have parts so great that a double can't hold them exactly. */
+    static WatchBench fine() {
+        WatchBench x = new WatchBench();
+        x.cause(4, -2, -1);
+        x.cause(5, 3, 3);
+        x.cause(3, 2, 2);
+        x.cause(5, 2, 3);
+        int[] states = {5, 26, 19, 19, 4, 25, 14, 30, 15, 21, 13, 29, 18, 32, 12, 5, 29, 21, 22, 17};
+        int[] rates = {169, -134, -280, -168, 134, 125, 116, -222, 107, -140, -158, 50, -98, 195, -208, 19, -4, 281, -56, 81};
+        for (int i = 0; i < states.length; i++) {
+            x.read(states[i], rates[i]);
+        }
+        return x;
+    }
+
     static WatchBench foundWatch() {
         WatchBench x = watch();
         x.find(7);

@@ -4,15 +4,15 @@ import java.util.Arrays;
 import java.util.HashSet;
 import java.util.Set;
 
-/** Every word of every promise, and of the terms, is a test's sentence; and each test's sentence stands in the document. */
+/** Every word of the promises and of the parts ahead of them is a test's; and each test's words stand in the document. */
 public final class DocumentTest {
-    private static final Class<?>[] TESTS = {TermsTest.class, RefusalsTest.class, CausesReadingsTest.class, FoundTest.class,
-        MendsPapersTest.class, TrialsTest.class, ToldTest.class};
+    private static final Class<?>[] TESTS = {WhatItIsTest.class, TermsTest.class, RefusalsTest.class, CausesReadingsTest.class,
+        FoundTest.class, MendsPapersTest.class, TrialsTest.class, ToldTest.class};
 
     public static void main(String[] args) throws IOException {
         Document document = new Document();
         int tests = 0;
-        for (int promise = 0; promise <= Document.PROMISES; promise++) {
+        for (int promise = Document.WHAT_IT_IS; promise <= Document.PROMISES; promise++) {
             tests += coverPromise(promise, document.wordsOf(promise));
         }
         int all = Arrays.stream(TESTS).mapToInt(one -> Sentences.testsOf(one).size()).sum();

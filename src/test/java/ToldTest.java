@@ -98,6 +98,18 @@ public final class ToldTest {
         Due.is("nearly nothing", judged(Benches.plain(0), 1, GREATEST), 1);
     }
 
+    @Sentence(promise = 32, says = "0 if they are just these, in any terms")
+    static void checkOfGreatTerms() {
+        WatchBench x = Benches.fine();
+        x.find(15);
+        int[] sizes = {-171108548, 10193953, 10211555, 926723, -61673386, 10193953, -26240220, 10193953};
+        Due.is("just these", judged(x, sizes), 0);
+        // so near to the first size that as doubles they are one
+        sizes[0] = -718492537;
+        sizes[1] = 42804870;
+        Due.is("the first is another", judged(x, sizes), 1);
+    }
+
     @Sentence(promise = 32, says = "(below not 0);")
     static void checkWithNoughtBelow() {
         Due.is("of the first", judged(bench(), 204, 0, 35, 2), 1);
