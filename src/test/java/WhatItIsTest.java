@@ -195,8 +195,8 @@ public final class WhatItIsTest {
             x.tell((int) x.size(c, true));
         }
         Due.is("what was found", x.check(), 0);
-        int[] true4 = {40, 1, -17, 1, 9, 1, 5, 1};
-        for (int number : true4) {
+        int[] unspoilt = {40, 1, -17, 1, 9, 1, 5, 1};
+        for (int number : unspoilt) {
             x.tell(number);
         }
         Due.is("what was found with nothing misread", x.check(), 1);
